@@ -13,6 +13,7 @@ public final class Meldhouse {
     private static final int MOST_WILD = 4;
     private static final int KNOCK = 10;
     private static final int BONUS = 25;
+    private static final int INT_BITS = 32;
 
     private final Rules rules;
     private final Bag typed;
@@ -56,7 +57,8 @@ public final class Meldhouse {
         return before;
     }
 
-    public int wild(boolean twos, boolean isLoose, int limit) throws IllegalArgumentException, IllegalStateException {
+    public int wild(boolean twos, boolean isLoose, int limit)
+            throws IllegalArgumentException, IllegalStateException {
         if (limit < 0 || limit > MOST_WILD) {
             throw new IllegalArgumentException("the limit of wild cards is 0 to 4");
         }
@@ -120,7 +122,8 @@ public final class Meldhouse {
         return row.at(index);
     }
 
-    public int deal(char edition, int players, int z) throws IllegalArgumentException, IllegalStateException {
+    public int deal(char edition, int players, int z)
+            throws IllegalArgumentException, IllegalStateException {
         if (!rules.isDealable(edition, players)) {
             throw new IllegalArgumentException("no such edition, or not for so many");
         }
@@ -181,7 +184,8 @@ public final class Meldhouse {
         return card;
     }
 
-    public int take(int depth) throws IllegalStateException, UnsupportedOperationException, NoSuchElementException {
+    public int take(int depth)
+            throws IllegalStateException, UnsupportedOperationException, NoSuchElementException {
         needDeal();
         if (!deal.mayTake(depth)) {
             throw new UnsupportedOperationException("not to be taken");
@@ -211,7 +215,8 @@ public final class Meldhouse {
         return meld;
     }
 
-    public int layOff(int meld) throws IllegalStateException, IndexOutOfBoundsException, UnsupportedOperationException {
+    public int layOff(int meld)
+            throws IllegalStateException, IndexOutOfBoundsException, UnsupportedOperationException {
         needDeal();
         needMeld(meld);
         if (!deal.mayLayOff(meld, typed)) {
@@ -223,7 +228,8 @@ public final class Meldhouse {
         return size;
     }
 
-    public int discard(int card) throws IllegalStateException, IllegalArgumentException, UnsupportedOperationException {
+    public int discard(int card)
+            throws IllegalStateException, IllegalArgumentException, UnsupportedOperationException {
         needDeal();
         needCard(card);
         if (!deal.mayDiscard(card)) {
@@ -236,7 +242,8 @@ public final class Meldhouse {
         return deal.turn;
     }
 
-    public int knock(int card) throws IllegalStateException, IllegalArgumentException, UnsupportedOperationException {
+    public int knock(int card)
+            throws IllegalStateException, IllegalArgumentException, UnsupportedOperationException {
         needDeal();
         needCard(card);
         if (!deal.mayKnock(card)) {
@@ -251,7 +258,8 @@ public final class Meldhouse {
         return gain;
     }
 
-    public int claim(int player) throws IllegalStateException, IndexOutOfBoundsException, UnsupportedOperationException {
+    public int claim(int player)
+            throws IllegalStateException, IndexOutOfBoundsException, UnsupportedOperationException {
         needDeal();
         needPlayer(player);
         if (!deal.mayClaim(player)) {
@@ -596,26 +604,13 @@ public final class Meldhouse {
             return size <= RANKS && Integer.bitCount(suits) == 1 && Integer.bitCount(ranks) == naturals;
         }
 
+        /** No window of at most 13 ranks holds a rank twice, so one with as many cards holds them all. */
         private boolean isClose() {
-            if (isWithin(ranks)) {
-                return true;
-            }
-            if (rules.order == 'h' && (ranks & 1) != 0) {
-                return isWithin(ranks ^ 1 | 1 << RANKS);
-            }
-            return rules.order == 'r' && isWithinRound();
-        }
-
-        private boolean isWithin(int bits) {
-            int above = Integer.SIZE - Integer.numberOfLeadingZeros(bits);
-            return above - Integer.numberOfTrailingZeros(bits) <= size;
-        }
-
-        private boolean isWithinRound() {
-            int twice = ranks | ranks << RANKS;
-            int all = (1 << RANKS) - 1;
+            int above = rules.order == 'r' ? ranks : rules.order == 'h' ? ranks & 1 : 0;
+            int line = ranks | above << RANKS;
+            int window = (1 << size) - 1;
             for (int start = 0; start < RANKS; start++) {
-                if ((twice >>> start & all) >>> size == 0) {
+                if (Integer.bitCount(line >>> start & window) == naturals) {
                     return true;
                 }
             }
@@ -746,7 +741,7 @@ public final class Meldhouse {
                     steps.add(places);
                     places *= count + 1;
                     full = full | count << shift;
-                    shift += Integer.SIZE - Integer.numberOfLeadingZeros(count);
+                    shift += INT_BITS - Integer.numberOfLeadingZeros(count);
                     guards = guards | 1 << shift;
                     shift++;
                 }
@@ -767,7 +762,7 @@ public final class Meldhouse {
         }
 
         int countIn(int left, int kind) {
-            int width = Integer.SIZE - Integer.numberOfLeadingZeros(counts.at(kind));
+            int width = INT_BITS - Integer.numberOfLeadingZeros(counts.at(kind));
             return left >>> shifts.at(kind) & (1 << width) - 1;
         }
 
@@ -851,7 +846,8 @@ public final class Meldhouse {
 
         int leastOf(Bag hand) {
             load(hand);
-            return hand.worthBy(rules) - mostOf(code.full, code.places - 1, 0);
+            int sum = hand.worthBy(rules);
+            return sum - mostOf(code.full, code.places - 1, sum, 0);
         }
 
         int waysOf(Bag hand) {
@@ -889,7 +885,8 @@ public final class Meldhouse {
             for (int place = 0; place < code.places; place++) {
                 if (stages.at(place) < MOST_MELDS) {
                     int left = code.partAt(place);
-                    least = Math.min(least, code.worthOf(left, rules) - mostOf(left, place, 0));
+                    int sum = code.worthOf(left, rules);
+                    least = Math.min(least, sum - mostOf(left, place, sum, 0));
                 }
             }
             return least;
@@ -956,8 +953,8 @@ public final class Meldhouse {
             }
         }
 
-        /** The most worth that can be melded of what is left. */
-        private int mostOf(int left, int place, int depth) {
+        /** The most worth that can be melded of what is left, whose worth is the sum: with that it stops early. */
+        private int mostOf(int left, int place, int sum, int depth) {
             if (left == 0 || depth > DEEPEST) {
                 return 0;
             }
@@ -965,14 +962,20 @@ public final class Meldhouse {
                 return most.at(place);
             }
             int kind = code.lowest(left);
-            int idle = code.countIn(left, kind);
-            int top = mostOf(left - (idle << code.shifts.at(kind)), place - idle * code.steps.at(kind), depth + 1);
             int end = starts.at(kind + 1);
-            for (int i = starts.at(kind); i < end; i++) {
+            int top = 0;
+            for (int i = starts.at(kind); i < end && top < sum; i++) {
                 if (code.isAmong(parts.at(i), left)) {
-                    int rest = mostOf(left - parts.at(i), place - moves.at(i), depth + 1);
-                    top = Math.max(top, worths.at(i) + rest);
+                    int worth = worths.at(i);
+                    int rest = mostOf(left - parts.at(i), place - moves.at(i), sum - worth, depth + 1);
+                    top = Math.max(top, worth + rest);
                 }
+            }
+            int idle = code.countIn(left, kind);
+            int without = sum - idle * rules.worthOf(code.cards.at(kind));
+            if (top < without) {
+                int to = place - idle * code.steps.at(kind);
+                top = Math.max(top, mostOf(left - (idle << code.shifts.at(kind)), to, without, depth + 1));
             }
             most.put(place, top);
             return top;
@@ -985,13 +988,14 @@ public final class Meldhouse {
                 ways = 0;
                 path.clear();
                 first.clear();
+                int sum = hand.worthBy(rules);
                 int place = code.places - 1;
-                follow(code.full, place, mostOf(code.full, place, 0), 0, 0);
+                follow(code.full, place, sum, mostOf(code.full, place, sum, 0), 0, 0);
             }
         }
 
         /** Meets the ways that meld what lacks, no worth less; like melds come in their order, so from one on. */
-        private void follow(int left, int place, int lack, int from, int depth) {
+        private void follow(int left, int place, int sum, int lack, int from, int depth) {
             if (lack == 0) {
                 if (ways == 0) {
                     first.copyFrom(path);
@@ -1008,10 +1012,10 @@ public final class Meldhouse {
                 if (code.isAmong(parts.at(i), left)) {
                     int rest = left - parts.at(i);
                     int to = place - moves.at(i);
-                    int lacks = lack - worths.at(i);
-                    if (mostOf(rest, to, 0) == lacks) {
+                    int worth = worths.at(i);
+                    if (mostOf(rest, to, sum - worth, 0) == lack - worth) {
                         path.add(i);
-                        follow(rest, to, lacks, i, depth + 1);
+                        follow(rest, to, sum - worth, lack - worth, i, depth + 1);
                         path.pop();
                     }
                 }
@@ -1019,8 +1023,9 @@ public final class Meldhouse {
             int idle = code.countIn(left, kind);
             int rest = left - (idle << code.shifts.at(kind));
             int to = place - idle * code.steps.at(kind);
-            if (mostOf(rest, to, 0) == lack) {
-                follow(rest, to, lack, from, depth + 1);
+            int without = sum - idle * rules.worthOf(code.cards.at(kind));
+            if (without >= lack && mostOf(rest, to, without, 0) == lack) {
+                follow(rest, to, without, lack, from, depth + 1);
             }
         }
     }
@@ -1285,6 +1290,7 @@ public final class Meldhouse {
 
     /** A deal, or, while its part is '-', none. */
     private static final class Deal {
+        private static final int CONTRACTS = 5;
         private static final int[] CONTRACT_SETS = {1, 0, 2, 1, 0};
         private static final int[] CONTRACT_RUNS = {0, 1, 0, 1, 2};
 
@@ -1346,7 +1352,7 @@ public final class Meldhouse {
             clear();
             edition = newEdition;
             players = newPlayers;
-            contract = number % CONTRACT_SETS.length;
+            contract = number % CONTRACTS;
             turn = 0;
             part = 'd';
             deck.begin(rules, z);
@@ -1401,14 +1407,12 @@ public final class Meldhouse {
 
         int takeDownTo(int depth) {
             must = depth > 0 ? deck.cardBelow(depth) : NONE;
-            int taken = 0;
-            while (taken <= depth && deck.pile.size() > 0) {
+            for (int taken = 0; taken <= depth && taken < MOST_CARDS; taken++) {
                 seats.gainSeen(turn, deck.pile.pop());
-                taken++;
             }
             claims = 0;
             part = 'p';
-            return taken;
+            return depth + 1;
         }
 
         boolean mayClaim(int player) {
