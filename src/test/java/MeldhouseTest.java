@@ -662,6 +662,7 @@ public final class MeldhouseTest {
         fails("meld of none", x::meld, UNSUPPORTED);
         fails("meld of no meld", () -> typed(x, 15, 28, 6).meld(), UNSUPPORTED);
         fails("meld of cards not held", () -> typed(x, 15, 28, 41).meld(), UNSUPPORTED);
+        fails("meld of jokers not held", () -> typed(x, 15, 28, 52).meld(), UNSUPPORTED);
         fails("meld of like cards not held", () -> typed(x, 15, 28, 27, 27).meld(), UNSUPPORTED);
         is("meld 0", typed(x, 28, 15, 27).meld(), 0);
         is("wiped then", x.wipe(), 0);
@@ -960,7 +961,7 @@ public final class MeldhouseTest {
     private static void knock() {
         fails("knock without a deal", () -> new Meldhouse().knock(0), STATE);
         Meldhouse x = gin(1, 2, 'h', 8);
-        fails("knock in the part to draw", () -> x.knock(2), UNSUPPORTED);
+        fails("knock in the part to draw", () -> x.knock(30), UNSUPPORTED);
         fails("wrong knock in the part to draw", () -> x.knock(53), ARGUMENT);
         x.draw();
         fails("knock with a card not held", () -> x.knock(0), UNSUPPORTED);
@@ -980,10 +981,11 @@ public final class MeldhouseTest {
         knocks(12, 13, 71, 71, 0);
         knocks(38189, 33, -25, 0, 25);
         knocks(46873, 10, -28, 0, 28);
-        Meldhouse r = new Meldhouse();
-        r.deal('r', 2, 8);
+        Meldhouse r = rich();
+        r.deal('r', 2, 2022);
         r.draw();
-        fails("knock in r", () -> r.knock(lowest(r)), UNSUPPORTED);
+        is("deadwood for a knock", r.deadwood(0), 0);
+        fails("knock in r", () -> r.knock(1), UNSUPPORTED);
     }
 
     private static Meldhouse gin(int packs, int jokers, char order, int z) {

@@ -170,6 +170,10 @@ public final class RandomCallsTest {
             call("packs", 2, 4);
             call("ace", 'r');
             call("wild", true, true, 4);
+        } else if (mode == 7) {
+            call("packs", 2, 4);
+            call("ace", "lhr".charAt(random.nextInt(3)));
+            call("wild", true, chance(50), 1 + random.nextInt(3));
         } else if (chance(70)) {
             call("packs", chance(50) ? 1 : 2, random.nextInt(5));
             call("ace", "lhr".charAt(random.nextInt(3)));
@@ -186,7 +190,7 @@ public final class RandomCallsTest {
         if (chance(10)) {
             call("deal", "grcxG".charAt(random.nextInt(5)), random.nextInt(7) - 1, random.nextInt());
         }
-        char edition = mode == 1 ? 'g' : mode == 2 || mode == 6 ? 'c' : "grc".charAt(random.nextInt(3));
+        char edition = mode == 1 || mode == 7 ? 'g' : mode == 2 || mode == 6 ? 'c' : "grc".charAt(random.nextInt(3));
         call("deal", edition, edition == 'g' ? 2 : 2 + random.nextInt(3), random.nextInt());
     }
 
