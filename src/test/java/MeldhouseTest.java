@@ -4,102 +4,7 @@ import java.util.List;
 import java.util.concurrent.Callable;
 
 /** Each promise of the document: ordinary calls, the edges that it names, and wrong inputs. */
-public final class MeldhouseTest {
-    private static final String ARGUMENT = "IllegalArgumentException";
-    private static final String STATE = "IllegalStateException";
-    private static final String UNSUPPORTED = "UnsupportedOperationException";
-    private static final String BOUNDS = "IndexOutOfBoundsException";
-    private static final String ELEMENT = "NoSuchElementException";
-    private static final String ARITHMETIC = "ArithmeticException";
-    private static int passed = 0;
-    private static int failed = 0;
-
-    // ---- the harness
-
-    private static void is(String what, Object got, Object due) {
-        if (due.equals(got)) {
-            passed++;
-        } else {
-            failed++;
-            System.out.println(what + " is " + got + ", due is " + due);
-        }
-    }
-
-    private static void fails(String what, Callable<?> call, String due) {
-        Object got;
-        try {
-            got = call.call();
-        } catch (Exception e) {
-            got = e.getClass().getSimpleName();
-        }
-        is(what, got, due);
-    }
-
-    // ---- small helpers
-
-    private static Meldhouse typed(Meldhouse x, int... cards) {
-        x.wipe();
-        for (int card : cards) {
-            x.type(card);
-        }
-        return x;
-    }
-
-    private static char kind(Meldhouse x, int... cards) {
-        return typed(x, cards).kind();
-    }
-
-    /** Many melds: two packs, four jokers, twos wild, loose sets, four wild cards, the ace round. */
-    private static Meldhouse rich() {
-        Meldhouse x = new Meldhouse();
-        x.packs(2, 4);
-        x.ace('r');
-        x.wild(true, true, 4);
-        return x;
-    }
-
-    private static List<Integer> handOf(Meldhouse x, int player) {
-        List<Integer> cards = new ArrayList<>();
-        for (int card = 0; card <= 52; card++) {
-            for (int i = 0; i < x.hand(player, card); i++) {
-                cards.add(card);
-            }
-        }
-        return cards;
-    }
-
-    private static int lowest(Meldhouse x) {
-        return handOf(x, x.turn()).get(0);
-    }
-
-    /** Draws, and discards the lowest card. */
-    private static void pass(Meldhouse x) {
-        x.draw();
-        x.discard(lowest(x));
-    }
-
-    private static List<Integer> meldOf(Meldhouse x, int meld) {
-        List<Integer> cards = new ArrayList<>();
-        while (true) {
-            try {
-                cards.add(x.melded(meld, cards.size()));
-            } catch (java.util.NoSuchElementException e) {
-                return cards;
-            }
-        }
-    }
-
-    private static List<Integer> tabledOf(Meldhouse x, int meld) {
-        List<Integer> cards = new ArrayList<>();
-        while (true) {
-            try {
-                cards.add(x.tabled(meld, cards.size()));
-            } catch (java.util.NoSuchElementException e) {
-                return cards;
-            }
-        }
-    }
-
+public final class MeldhouseTest extends HouseChecks {
     /** Types three cards of the hand whose turn it is, the given one among them, that are a meld; or none. */
     private static boolean typeMeldWith(Meldhouse x, int card) {
         List<Integer> hand = handOf(x, x.turn());
@@ -113,29 +18,6 @@ public final class MeldhouseTest {
         }
         x.wipe();
         return false;
-    }
-
-    /** Places drawn as the document tells: the cards of a row change theirs; answers z as it is then. */
-    private static int shuffle(List<Integer> row, int z) {
-        for (int k = row.size() - 1; k > 0; k--) {
-            z = z * 1103515245 + 12345;
-            int place = (z >>> 16) % (k + 1);
-            int card = row.get(k);
-            row.set(k, row.get(place));
-            row.set(place, card);
-        }
-        return z;
-    }
-
-    private static List<Integer> rowOf(int packs, int jokers) {
-        List<Integer> row = new ArrayList<>();
-        for (int pack = 0; pack < packs; pack++) {
-            for (int card = 0; card < 52; card++) {
-                row.add(card);
-            }
-        }
-        row.addAll(Collections.nCopies(jokers, 52));
-        return row;
     }
 
     // ---- the promises
@@ -820,14 +702,6 @@ public final class MeldhouseTest {
         layOffWithoutContract();
     }
 
-    private static int sumOf(Meldhouse x, int player) {
-        int sum = 0;
-        for (int card : handOf(x, player)) {
-            sum += x.worth(card);
-        }
-        return sum;
-    }
-
     private static void layOffByOthers() {
         Meldhouse x = rich();
         x.deal('r', 2, 2022);
@@ -1221,7 +1095,6 @@ public final class MeldhouseTest {
         checksum();
         shares();
         sound();
-        System.out.println(passed + " checks passed, " + failed + " failed");
-        System.exit(failed == 0 ? 0 : 1);
+        finish();
     }
 }
