@@ -55,9 +55,11 @@ public final class MeldEdgesTest extends HouseChecks {
 
     /** "A meld has 3 cards or more, 2 at least that are not wild" */
     private static void fewCards() {
-        run("less than 3 cards", "kind = -; kindOf 3 = -; kindOf 52 = -; kindOf 3 16 = -; kindOf 3 4 = -; kindOf 3 52 = -");
+        run("less than 3 cards", "kind = -; kindOf 3 = -; kindOf 52 = -; kindOf 3 16 = -; kindOf 3 4 = -;"
+                + "kindOf 3 52 = -");
         run("3 cards", "kindOf 3 16 29 = s; kindOf 3 4 5 = r; kindOf 3 16 52 = s; kindOf 3 4 52 = r");
-        run("1 that is not wild", "wild false true 4; kindOf 3 52 52 = -; kindOf 3 52 52 52 = -; kindOf 3 52 52 52 52 = -");
+        run("1 that is not wild", "wild false true 4; kindOf 3 52 52 = -; kindOf 3 52 52 52 = -;"
+                + "kindOf 3 52 52 52 52 = -");
         run("none that is not wild", "wild true true 4; kindOf 52 52 52 = -; kindOf 1 14 27 = -; kindOf 1 2 3 = r;"
                 + "kindOf 1 14 2 = -; kindOf 52 1 14 27 = -");
         run("2 that are not wild", "wild false true 4; kindOf 3 16 52 52 = s; kindOf 3 16 52 52 52 52 = s;"
@@ -77,8 +79,10 @@ public final class MeldEdgesTest extends HouseChecks {
                         + "; least = " + (jokers <= limit ? 0 : leastAbove(limit, jokers)));
             }
         }
-        run("twos and jokers together", "wild true true 2; kindOf 3 16 52 1 = s; kindOf 3 16 52 1 14 = -; kindOf 3 16 1 1 = s");
-        run("the limits that there are", "wild false false 0 = 2; wild false false 4 = 0; wild false false -1 = !IllegalArgument;"
+        run("twos and jokers together", "wild true true 2; kindOf 3 16 52 1 = s; kindOf 3 16 52 1 14 = -;"
+                + "kindOf 3 16 1 1 = s");
+        run("the limits that there are", "wild false false 0 = 2; wild false false 4 = 0;"
+                + "wild false false -1 = !IllegalArgument;"
                 + "wild false false 5 = !IllegalArgument; wild false false 1 = 4");
         run("a wrong limit sets nothing", "wild true true 5 = !IllegalArgument; worth 1 = 2; kindOf 3 3 3 = -;"
                 + "kindOf 3 16 52 52 = s");
@@ -106,7 +110,8 @@ public final class MeldEdgesTest extends HouseChecks {
                 + "kindOf 3 3 16 16 29 29 52 52 = s");
         run("9 cards", "wild false true 2; kindOf 3 3 16 16 29 29 42 42 3 = -; kindOf 3 3 16 16 29 29 42 42 52 = -;"
                 + "kindOf 3 3 16 16 29 29 42 52 52 = -");
-        run("9 to 13 cards", "wild false true 4; kindOf 3 3 3 3 3 3 3 3 3 3 3 3 3 = -; kindOf 3 3 3 3 3 52 52 52 52 = -");
+        run("9 to 13 cards", "wild false true 4; kindOf 3 3 3 3 3 3 3 3 3 3 3 3 3 = -;"
+                + "kindOf 3 3 3 3 3 52 52 52 52 = -");
         run("5 cards", "wild false true 2; kindOf 3 16 29 42 52 = s; kindOf 3 3 16 29 42 = s; kindOf 3 3 16 29 43 = -");
     }
 
@@ -117,13 +122,16 @@ public final class MeldEdgesTest extends HouseChecks {
         run("13 cards with a rank twice", "kindOf 0 1 2 3 4 5 6 7 8 9 10 11 11 = -");
         run("13 cards of two suits", "kindOf 0 1 2 3 4 5 6 7 8 9 10 11 25 = -");
         run("two suits", "kindOf 3 4 18 = -; kindOf 12 13 14 = -; kindOf 3 17 31 = -");
-        run("like ranks", "kindOf 3 4 4 5 = -; kindOf 3 3 4 = -; kindOf 3 3 5 52 = -; wild false true 4; kindOf 3 3 4 52 = -");
-        run("so many ranks that follow each other", "kindOf 3 5 6 = -; kindOf 3 4 6 = -; kindOf 3 5 52 = r; kindOf 3 6 52 = -;"
+        run("like ranks", "kindOf 3 4 4 5 = -; kindOf 3 3 4 = -; kindOf 3 3 5 52 = -; wild false true 4;"
+                + "kindOf 3 3 4 52 = -");
+        run("so many ranks that follow each other", "kindOf 3 5 6 = -; kindOf 3 4 6 = -; kindOf 3 5 52 = r;"
+                + "kindOf 3 6 52 = -;"
                 + "kindOf 3 6 52 52 = r; kindOf 3 7 52 52 = -; wild false false 3; kindOf 3 7 52 52 52 = r;"
                 + "kindOf 3 8 52 52 52 = -");
-        run("a wild one at an end", "kindOf 0 1 52 = r; kindOf 11 12 52 = r; kindOf 11 12 52 52 = r; kindOf 0 1 52 52 = r");
-        run("the least and the most rank", "wild false false 4; kindOf 0 12 52 52 52 52 = -; kindOf 1 6 52 52 52 52 = r;"
-                + "kindOf 1 7 52 52 52 52 = -");
+        run("a wild one at an end", "kindOf 0 1 52 = r; kindOf 11 12 52 = r; kindOf 11 12 52 52 = r;"
+                + "kindOf 0 1 52 52 = r");
+        run("the least and the most rank", "wild false false 4; kindOf 0 12 52 52 52 52 = -;"
+                + "kindOf 1 6 52 52 52 52 = r; kindOf 1 7 52 52 52 52 = -");
         run("wild twos in a run", "wild true false 2; kindOf 0 1 2 = r; kindOf 3 27 5 = r; kindOf 14 1 2 3 = r;"
                 + "kindOf 2 3 1 52 14 = -; wild true false 0; kindOf 0 1 2 = -; kindOf 2 3 4 = r");
     }
@@ -134,11 +142,13 @@ public final class MeldEdgesTest extends HouseChecks {
         run("'l'", "kindOf 0 1 2 = r; kindOf 0 2 52 = r; kindOf 10 11 12 = r; kindOf 11 12 0 = -; kindOf 12 0 52 = -;"
                 + "kindOf 12 0 1 = -; kindOf 50 51 39 = -; kindOf 0 12 52 52 = -");
         run("'h'", "ace h = l; kindOf 0 1 2 = r; kindOf 11 12 0 = r; kindOf 12 0 52 = r; kindOf 11 0 52 = r;"
-                + "kindOf 12 0 1 = -; kindOf 12 0 1 52 = -; kindOf 11 12 0 1 = -; kindOf 50 51 39 = r; kindOf 12 1 52 = -");
+                + "kindOf 12 0 1 = -; kindOf 12 0 1 52 = -; kindOf 11 12 0 1 = -; kindOf 50 51 39 = r;"
+                + "kindOf 12 1 52 = -");
         run("'r'", "ace r = l; kindOf 0 1 2 = r; kindOf 11 12 0 = r; kindOf 12 0 1 = r; kindOf 12 1 52 = r;"
                 + "kindOf 10 1 52 52 = -; kindOf 11 1 52 52 = r; kindOf 11 12 0 1 2 = r; kindOf 51 39 40 = r;"
                 + "kindOf 51 0 1 = -; kindOf 10 12 1 = -");
-        run("12 and 13 cards round", "ace r; kindOf 7 8 9 10 11 12 0 1 2 3 4 5 = r; kindOf 7 8 9 10 11 12 0 1 2 3 4 5 6 = r;"
+        run("12 and 13 cards round", "ace r; kindOf 7 8 9 10 11 12 0 1 2 3 4 5 = r;"
+                + "kindOf 7 8 9 10 11 12 0 1 2 3 4 5 6 = r;"
                 + "ace h; kindOf 7 8 9 10 11 12 0 1 2 3 4 5 = -; kindOf 1 2 3 4 5 6 7 8 9 10 11 12 0 = r;"
                 + "kindOf 2 3 4 5 6 7 8 9 10 11 12 0 = r; ace l; kindOf 2 3 4 5 6 7 8 9 10 11 12 0 = -");
         run("no order", "ace x = !IllegalArgument; ace H = !IllegalArgument; ace - = !IllegalArgument; ace h = l;"
@@ -155,12 +165,13 @@ public final class MeldEdgesTest extends HouseChecks {
         run("12 cards", eleven + " 24; least = !Unsupported; ways = !Unsupported; melds = !Unsupported;"
                 + "melded 0 0 = !Unsupported; melded -1 0 = !Unsupported; kind = -; type 25 = 13");
         run("13 cards", eleven + " 24 25; type 26 = !IllegalState; type 52 = !IllegalState; type 53 = !IllegalArgument;"
-                + "least = !Unsupported; ways = !Unsupported; melds = !Unsupported; melded 9 9 = !Unsupported; wipe = 13; wipe = 0");
+                + "least = !Unsupported; ways = !Unsupported; melds = !Unsupported; melded 9 9 = !Unsupported;"
+                + "wipe = 13; wipe = 0");
         run("11 again", eleven + "; type 5 = 12; least = !Unsupported; wipe = 12; " + eleven + "; least = 0");
         run("no card", "least = 0; ways = 1; melds = 0; melded 0 0 = !NoSuchElement; wipe = 0");
         run("one card", "type 7 = 1; least = 8; ways = 1; melds = 0; melded 0 0 = !NoSuchElement");
-        run("cards like which there are none in the packs", "packs 1 0; type 5 = 1; type 5 = 2; type 5 = 3; type 52 = 4;"
-                + "type 52 = 5; type 52 = 6; type 52 = 7; type 52 = 8; type 52 = 9; wipe = 9");
+        run("cards like which there are none in the packs", "packs 1 0; type 5 = 1; type 5 = 2; type 5 = 3;"
+                + "type 52 = 4; type 52 = 5; type 52 = 6; type 52 = 7; type 52 = 8; type 52 = 9; wipe = 9");
     }
 
     /** "Its deadwood is what the others are worth. The least deadwood is that of the best ways." */
@@ -189,19 +200,25 @@ public final class MeldEdgesTest extends HouseChecks {
                 + "way = 0 0 0 | 0 0 0 | 0 0 0 0 0");
     }
 
-    /** "Melds are told by their cards, rising; rows of numbers are compared number by number, a shorter one ahead .." */
+    /** "Melds are told by their cards, rising; rows of numbers are compared number by number, a shorter one ahead" */
     private static void orders() {
-        run("rising", "types 52 29 3 16; way = 3 16 29 52; melded 0 0 = 3; melded 0 3 = 52; melded 0 4 = !NoSuchElement;"
+        run("rising", "types 52 29 3 16; way = 3 16 29 52; melded 0 0 = 3; melded 0 3 = 52;"
+                + "melded 0 4 = !NoSuchElement;"
                 + "melded 0 -1 = !NoSuchElement; melded 1 0 = !NoSuchElement; melded -1 0 = !NoSuchElement");
-        run("a shorter one ahead", "types 5 4 3 2 1 0; ways = 2; melds = 2; way = 0 1 2 | 3 4 5; melded 2 0 = !NoSuchElement");
+        run("a shorter one ahead", "types 5 4 3 2 1 0; ways = 2; melds = 2; way = 0 1 2 | 3 4 5;"
+                + "melded 2 0 = !NoSuchElement");
         run("number by number, the second one", "types 9 10 11 22 35; least = 20; ways = 2; way = 9 10 11");
-        run("number by number, the third one", "types 50 37 24 11 13 26 0 39; wild false true 2; way = 0 13 26 39 | 11 24 37 50");
+        run("number by number, the third one", "types 50 37 24 11 13 26 0 39; wild false true 2;"
+                + "way = 0 13 26 39 | 11 24 37 50");
         run("meld by meld", "types 0 1 2 22 23 24 37 50; ways = 2; least = 20; way = 0 1 2 | 22 23 24");
         run("a run or a set of the most worth", "types 37 24 11 10 9; least = 20; ways = 2; way = 9 10 11");
-        run("a longer one ahead by its numbers", "types 9 10 11 12 25 38; least = 0; ways = 1; way = 9 10 11 | 12 25 38");
+        run("a longer one ahead by its numbers", "types 9 10 11 12 25 38; least = 0; ways = 1;"
+                + "way = 9 10 11 | 12 25 38");
         run("seven in a row", "types 0 1 2 3 4 5 6; least = 0; ways = 3; way = 0 1 2 | 3 4 5 6");
-        run("the lowest left over if that is no worse", "types 0 13 26 39 40 41; least = 0; ways = 1; way = 0 13 26 | 39 40 41");
-        run("which of like worths is left", "types 9 10 11 12 22 35 25 38; least = 20; ways = 3; way = 9 10 11 | 12 25 38");
+        run("the lowest left over if that is no worse", "types 0 13 26 39 40 41; least = 0; ways = 1;"
+                + "way = 0 13 26 | 39 40 41");
+        run("which of like worths is left", "types 9 10 11 12 22 35 25 38; least = 20; ways = 3;"
+                + "way = 9 10 11 | 12 25 38");
     }
 
     public static void main(String[] args) {

@@ -40,7 +40,8 @@ public final class MeldhouseTest extends HouseChecks {
         Meldhouse x = new Meldhouse();
         is("packs(1, 0)", x.packs(1, 0), 52);
         is("packs(2, 4)", x.packs(2, 4), 108);
-        for (int[] wrong : new int[][] {{0, 0}, {3, 0}, {1, -1}, {2, 5}, {Integer.MIN_VALUE, 0}, {1, Integer.MAX_VALUE}}) {
+        for (int[] wrong : new int[][] {{0, 0}, {3, 0}, {1, -1}, {2, 5}, {Integer.MIN_VALUE, 0}, {1,
+                Integer.MAX_VALUE}}) {
             fails("packs of " + wrong[0] + " and " + wrong[1], () -> x.packs(wrong[0], wrong[1]), ARGUMENT);
         }
         is("deal after wrong packs", x.deal('r', 2, 1), 108 - 15);
@@ -222,8 +223,10 @@ public final class MeldhouseTest extends HouseChecks {
         Meldhouse x = new Meldhouse();
         is("deal r 2", x.deal('r', 2, 5), 37);
         is("draw of it", x.draw(), 2);
-        for (Object[] wrong : new Object[][] {{'g', 3}, {'g', 1}, {'r', 1}, {'r', 5}, {'c', 0}, {'c', -2}, {'x', 2}, {'R', 2}}) {
-            fails("deal " + wrong[0] + wrong[1], () -> new Meldhouse().deal((char) wrong[0], (int) wrong[1], 1), ARGUMENT);
+        for (Object[] wrong : new Object[][] {{'g', 3}, {'g', 1}, {'r', 1}, {'r', 5}, {'c', 0}, {'c', -2}, {'x', 2},
+                {'R', 2}}) {
+            fails("deal " + wrong[0] + wrong[1], () -> new Meldhouse().deal((char) wrong[0], (int) wrong[1], 1),
+                    ARGUMENT);
             fails("deal in a deal " + wrong[0] + wrong[1], () -> x.deal((char) wrong[0], (int) wrong[1], 1), ARGUMENT);
         }
         fails("deal in a deal", () -> x.deal('r', 2, 5), STATE);

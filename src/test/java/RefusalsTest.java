@@ -19,23 +19,28 @@ public final class RefusalsTest extends HouseChecks {
     private static final String BOUND = "packs 2 4; deal r 2 30; pass; take 1;";
     private static final String MELDED = "deal r 2 141; draw; put 31 32 33;";
     private static final String ALONE = "deal g 2 825; draw;";
-    private static final String SHORT = "deal g 2 825; draw; knock 15; packs 2 4; deal c 2 22900; draw; put 3 42 52; put 9 22 35;";
-    private static final String[] SCENES = {"", THIRTEEN, TWELVE, VOID, OVER, GONE, DRAW, PLAY, FROZEN, CLAIMED, BOUND, MELDED,
-        ALONE, SHORT, "deal g 2 30; passes 2;", "deal g 2 1208; types 15 16 17;", DRAW + "passes 2; take 0;", MELDED + "types 34;",
-        MELDED + "shed; pass; types 34;", "deal r 2 24; draw; put 9 35 48; shed; draw; types 22;", SHORT + "put 10 36 49; types 52;",
-        SHORT + "types 10 36 49;", "deal c 4 77; passes 15; claim 0;", "deal r 4 12; claim 2; types 5 5 5;",
-        "deal c 4 99; claim 1; draw; discard 41; draw;", "packs 2 4; deal r 2 609; pass; take 1; put 41 43 44 45 46 47 48 52;",
-        ALONE + "knock 15;", "packs 2 4; ace r; wild true true 4; deal c 3 8; draw;"};
-    private static final String[] CALLS = {"packs 1 0", "packs 0 0", "packs 3 0", "packs 1 -1", "packs 2 5", "ace l", "ace h", "ace x",
-        "wild true true 4", "wild false false -1", "wild false false 5", "worth -1", "worth 53", "type -1", "type 53", "type 5",
-        "least", "ways", "melds", "melded -1 0", "melded 0 -1", "melded 9 0", "melded 0 99", "deal r 2 5", "deal g 2 5", "deal g 3 5",
-        "deal c 5 1", "deal x 2 1", "deal r 1 1", "pileAt -1", "pileAt 999", "pileAt 0", "held -1", "held 4", "held 0", "hand -1 0",
-        "hand 4 53", "hand 0 53", "hand 0 -1", "turn", "draw", "take 0", "take 1", "take -1", "take 999", "must", "meld", "layOff -1",
-        "layOff 0", "layOff 1", "layOff 99", "discard -1", "discard 53", "discard 0", "discard 6", "discard 17", "discard 52", "knock -1",
-        "knock 53", "knock 0", "knock 14", "knock 15", "knock 52", "claim -1", "claim 4", "claim 0", "claim 1", "claim 2", "claim 3",
-        "tabled -1 0", "tabled 99 0", "tabled 0 -1", "tabled 0 99", "owner -1", "owner 0", "owner 99", "deadwood -1", "deadwood 4",
-        "deadwood 0", "deadwood 1", "known -1 0", "known 4 53", "known 0 53", "known 0 -1", "points -1", "points 4", "tableShare",
-        "meanWorth -1", "meanWorth 4", "meanWorth 0"};
+    private static final String SHORT = "deal g 2 825; draw; knock 15; packs 2 4; deal c 2 22900; draw; put 3 42 52;"
+            + "put 9 22 35;";
+    private static final String[] SCENES = {"", THIRTEEN, TWELVE, VOID, OVER, GONE, DRAW, PLAY, FROZEN, CLAIMED,
+            BOUND, MELDED, ALONE, SHORT, "deal g 2 30; passes 2;", "deal g 2 1208; types 15 16 17;",
+            DRAW + "passes 2; take 0;", MELDED + "types 34;", MELDED + "shed; pass; types 34;",
+            "deal r 2 24; draw; put 9 35 48; shed; draw; types 22;", SHORT + "put 10 36 49; types 52;",
+            SHORT + "types 10 36 49;", "deal c 4 77; passes 15; claim 0;", "deal r 4 12; claim 2; types 5 5 5;",
+            "deal c 4 99; claim 1; draw; discard 41; draw;",
+            "packs 2 4; deal r 2 609; pass; take 1; put 41 43 44 45 46 47 48 52;", ALONE + "knock 15;",
+            "packs 2 4; ace r; wild true true 4; deal c 3 8; draw;"};
+    private static final String[] CALLS = {"packs 1 0", "packs 0 0", "packs 3 0", "packs 1 -1", "packs 2 5", "ace l",
+            "ace h", "ace x", "wild true true 4", "wild false false -1", "wild false false 5", "worth -1", "worth 53",
+            "type -1", "type 53", "type 5", "least", "ways", "melds", "melded -1 0", "melded 0 -1", "melded 9 0",
+            "melded 0 99", "deal r 2 5", "deal g 2 5", "deal g 3 5", "deal c 5 1", "deal x 2 1", "deal r 1 1",
+            "pileAt -1", "pileAt 999", "pileAt 0", "held -1", "held 4", "held 0", "hand -1 0", "hand 4 53",
+            "hand 0 53", "hand 0 -1", "turn", "draw", "take 0", "take 1", "take -1", "take 999", "must", "meld",
+            "layOff -1", "layOff 0", "layOff 1", "layOff 99", "discard -1", "discard 53", "discard 0", "discard 6",
+            "discard 17", "discard 52", "knock -1", "knock 53", "knock 0", "knock 14", "knock 15", "knock 52",
+            "claim -1", "claim 4", "claim 0", "claim 1", "claim 2", "claim 3", "tabled -1 0", "tabled 99 0",
+            "tabled 0 -1", "tabled 0 99", "owner -1", "owner 0", "owner 99", "deadwood -1", "deadwood 4",
+            "deadwood 0", "deadwood 1", "known -1 0", "known 4 53", "known 0 53", "known 0 -1", "points -1",
+            "points 4", "tableShare", "meanWorth -1", "meanWorth 4", "meanWorth 0"};
 
     // ---- a house and its twin
 
@@ -77,9 +82,9 @@ public final class RefusalsTest extends HouseChecks {
     /** All that can be asked without a change: the checksum stands for hands, pile and stock. */
     private static List<String> looks(Meldhouse x) {
         List<String> answers = new ArrayList<>();
-        for (String call : new String[] {"part", "turn", "stock", "pile", "pileAt 0", "isFrozen", "must", "table", "deals", "voids",
-            "checksum", "tableShare", "isSound", "kind", "least", "ways", "melds", "way", "worth 1", "points 0", "points 1", "points 2",
-            "points 3", "row 0", "row 1", "owner 0", "owner 1"}) {
+        for (String call : new String[] {"part", "turn", "stock", "pile", "pileAt 0", "isFrozen", "must", "table",
+                "deals", "voids", "checksum", "tableShare", "isSound", "kind", "least", "ways", "melds", "way",
+                "worth 1", "points 0", "points 1", "points 2", "points 3", "row 0", "row 1", "owner 0", "owner 1"}) {
             if (!call.equals("way") || answers.get(answers.size() - 1).matches("melds = \\d+")) {
                 look(answers, x, call);
             }
@@ -109,7 +114,8 @@ public final class RefusalsTest extends HouseChecks {
             look(answers, x, "must");
             discardFirst(answers, x);
         }
-        for (String call : new String[] {"checksum", "deals", "voids", "ace r", "wild true true 3", "packs 1 1", "deal g 2 9"}) {
+        for (String call : new String[] {"checksum", "deals", "voids", "ace r", "wild true true 3", "packs 1 1",
+                "deal g 2 9"}) {
             look(answers, x, call);
         }
         return answers;
@@ -128,13 +134,15 @@ public final class RefusalsTest extends HouseChecks {
 
     private static void rules() {
         for (String rows : new String[] {"", DRAW, PLAY, OVER, THIRTEEN}) {
-            for (String call : new String[] {"packs 0 0", "packs 3 4", "packs 1 -1", "packs 2 5", "packs -2147483648 0", "ace x", "ace L",
-                "wild true true -1", "wild true false 5", "wild false true 2147483647"}) {
+            for (String call : new String[] {"packs 0 0", "packs 3 4", "packs 1 -1", "packs 2 5",
+                    "packs -2147483648 0", "ace x", "ace L", "wild true true -1", "wild true false 5",
+                    "wild false true 2147483647"}) {
                 refused(rows, call, ARGUMENT);
             }
         }
         for (String rows : new String[] {DRAW, PLAY, FROZEN, BOUND, ALONE, CLAIMED}) {
-            for (String call : new String[] {"packs 1 0", "packs 2 4", "ace l", "ace r", "wild false false 2", "wild true true 0"}) {
+            for (String call : new String[] {"packs 1 0", "packs 2 4", "ace l", "ace r", "wild false false 2",
+                    "wild true true 0"}) {
                 refused(rows, call, STATE);
             }
         }
@@ -149,11 +157,13 @@ public final class RefusalsTest extends HouseChecks {
 
     private static void hands() {
         for (String rows : new String[] {TWELVE, THIRTEEN, TWELVE + PLAY}) {
-            for (String call : new String[] {"least", "ways", "melds", "melded 0 0", "melded -1 0", "melded 0 -1", "melded 9 9"}) {
+            for (String call : new String[] {"least", "ways", "melds", "melded 0 0", "melded -1 0", "melded 0 -1",
+                    "melded 9 9"}) {
                 refused(rows, call, UNSUPPORTED);
             }
         }
-        for (String call : new String[] {"melded -1 0", "melded 1 0", "melded 0 -1", "melded 0 3", "melded 2147483647 0", "melded 0 2147483647"}) {
+        for (String call : new String[] {"melded -1 0", "melded 1 0", "melded 0 -1", "melded 0 3",
+                "melded 2147483647 0", "melded 0 2147483647"}) {
             refused("types 3 16 29;", call, ELEMENT);
         }
         refused("", "melded 0 0", ELEMENT);
@@ -161,8 +171,8 @@ public final class RefusalsTest extends HouseChecks {
 
     private static void deals() {
         for (String rows : new String[] {"", DRAW, PLAY, OVER, VOID}) {
-            for (String call : new String[] {"deal x 2 1", "deal G 2 1", "deal g 1 1", "deal g 3 1", "deal r 1 1", "deal r 5 1", "deal c 0 1",
-                "deal c -2147483648 1", "deal c 2147483647 1"}) {
+            for (String call : new String[] {"deal x 2 1", "deal G 2 1", "deal g 1 1", "deal g 3 1", "deal r 1 1",
+                    "deal r 5 1", "deal c 0 1", "deal c -2147483648 1", "deal c 2147483647 1"}) {
                 refused(rows, call, ARGUMENT);
             }
         }
@@ -174,8 +184,8 @@ public final class RefusalsTest extends HouseChecks {
 
     private static void looked() {
         for (String rows : new String[] {"", GONE}) {
-            for (String call : new String[] {"held 0", "hand 0 0", "hand 0 53", "known 0 0", "known 0 53", "deadwood 0", "meanWorth 0",
-                "tabled 0 0", "owner 0"}) {
+            for (String call : new String[] {"held 0", "hand 0 0", "hand 0 53", "known 0 0", "known 0 53",
+                    "deadwood 0", "meanWorth 0", "tabled 0 0", "owner 0"}) {
                 refused(rows, call, BOUNDS);
             }
             refused(rows, "pileAt 0", ELEMENT);
@@ -209,8 +219,9 @@ public final class RefusalsTest extends HouseChecks {
     /** No deal, or one that is over, is listed first in all of these. */
     private static void noDeal() {
         for (String rows : new String[] {"", VOID, OVER, GONE, ALONE + "knock 15;", OVER + "types 3 16 29;"}) {
-            for (String call : new String[] {"turn", "must", "draw", "take 0", "take -1", "take 99", "meld", "layOff 0", "layOff 9",
-                "discard 0", "discard 53", "knock 0", "knock -1", "claim 1", "claim 9", "claim -1"}) {
+            for (String call : new String[] {"turn", "must", "draw", "take 0", "take -1", "take 99", "meld",
+                    "layOff 0", "layOff 9", "discard 0", "discard 53", "knock 0", "knock -1", "claim 1", "claim 9",
+                    "claim -1"}) {
                 refused(rows, call, STATE);
             }
         }
@@ -249,7 +260,8 @@ public final class RefusalsTest extends HouseChecks {
         refused("packs 1 2; deal r 3 224; draw; types 3 4 52 52 52;", "meld", UNSUPPORTED);
         refused(ALONE + "types 21 22 23;", "meld", UNSUPPORTED);
         refused(SHORT + "put 10 36 49; types 52;", "meld", UNSUPPORTED);
-        refused("deal g 2 825; draw; knock 15; packs 2 4; deal c 2 22900; draw; put 3 42 52; put 9 22 35 52; types 10 36 49;", "meld", UNSUPPORTED);
+        refused("deal g 2 825; draw; knock 15; packs 2 4; deal c 2 22900; draw; put 3 42 52; put 9 22 35 52;"
+                + "types 10 36 49;", "meld", UNSUPPORTED);
     }
 
     private static void layOffs() {
