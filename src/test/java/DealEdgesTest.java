@@ -234,6 +234,8 @@ public final class DealEdgesTest extends HouseChecks {
         String buried = "packs 1 1; deal c 4 2; passes 11; isFrozen = false; passes 1; isFrozen = true; passes 4;"
                 + "isFrozen = true; stock = 0;";
         run("a joker that is turned with the pile", buried + "draw; pile = 1; isFrozen = false; isSound = true");
+        run("a joker above the bottom that is turned", "packs 1 4; deal r 2 1; draw; discard 52; passes 40; stock = 0;"
+                + "pileAt 0 = 13; pileAt 40 = 52; isFrozen = true; draw; pile = 1; isFrozen = false");
         run("a joker that stays as the top", "packs 1 1; deal c 4 213; passes 16; pileAt 0 = 52; isFrozen = true;"
                 + "stock = 0; draw; pile = 1; pileAt 0 = 52; isFrozen = true");
         run("no pile", "isFrozen = false; deal r 2 5; take 0; pile = 0; isFrozen = false");

@@ -18,6 +18,8 @@ public final class TableEdgesTest extends HouseChecks {
                 + "put 46 47 48 = !Unsupported; put 3 3 52 = !Unsupported; table = 0; held 0 = 8");
         run("no meld", hand + "put 3 4 = !Unsupported; put = !Unsupported; put 3 4 7 = !Unsupported;"
                 + "put 3 46 52 = !Unsupported; put 3 52 52 = !Unsupported; held 0 = 8; wipe = 3");
+        run("not the lowest card", "deal r 2 10; draw; cards 0 = 13 14 16 27 30 31 39 44; put 0 13 39 = !Unsupported;"
+                + "table = 0; held 0 = 8");
         run("not in the part to draw", "deal r 2 141; put 32 33 34 = !Unsupported; wipe = 3; draw; put 32 33 34 = 0");
         run("not in 'g'", "deal g 2 825; draw; put 21 22 23 = !Unsupported; wipe = 3; layOff 0 = !IndexOutOfBounds;"
                 + "table = 0");
@@ -167,6 +169,10 @@ public final class TableEdgesTest extends HouseChecks {
                 + "part = e");
         run("the contract met by the second run", KNOCK.repeat(4) + "packs 2 4; deal c 2 421783; draw;"
                 + "put 26 27 28 29 30 31 32 = 0; put 35 36 52 = 1; part = e");
+        run("a last set is but one", KNOCK.repeat(2) + "packs 2 4; deal c 2 10242; draw; put 13 14 16 52 = 0;"
+                + "put 46 47 52 = 1; put 10 49 52 = !Unsupported; held 0 = 3; part = p");
+        run("a last run is but one", KNOCK.repeat(4) + "packs 2 4; deal c 2 327339; draw; put 1 27 40 = 0;"
+                + "put 16 18 19 20 22 52 52 = !Unsupported; held 0 = 7; part = p");
         run("the first set, behind runs", "packs 2 4; deal c 2 10242; draw; put 13 14 16 52 = 0; put 46 47 52 = 1;"
                 + "put 10 49 52 = 2; part = e");
         run("no contract for the last discard but the own one", "packs 2 4; deal c 2 1269; draw; put 5 31 52;"
@@ -228,6 +234,8 @@ public final class TableEdgesTest extends HouseChecks {
                 + "deadwood 0 = 10; deadwood 1 = 46; turn = !IllegalState; table = 0; tableShare = 0.0;"
                 + "isSound = true; knock 14 = !IllegalState");
         run("with 7", hand + "knock 44; part = e");
+        run("with 11, the lowest card in it", "deal g 2 1156; draw; deadwood 0 = 18; hand 0 0 = 1;"
+                + "knock 6 = !Unsupported; knock 19 = !Unsupported; part = p");
         run("with a card not held", "deal g 2 13915; draw; deadwood 0 = 10; knock 0 = !Unsupported;"
                 + "knock 52 = !Unsupported; held 0 = 11");
         run("in the part to draw", "deal g 2 1208; deadwood 0 = 10; knock 7 = !Unsupported; knock 11 = !Unsupported;"
@@ -267,6 +275,16 @@ public final class TableEdgesTest extends HouseChecks {
         run("cards laid off that were melded", "deal g 2 175717; draw; deadwood 1 = 34; knock 8 = 20");
         run("cards laid off that were melded, again", "deal g 2 283973; draw; deadwood 1 = 48; knock 18 = 29");
         run("nothing to be laid off", "deal g 2 2044; draw; deadwood 1 = 36; knock 24 = 26");
+        // 0 13 26, 7 20 33 and 40 41 42 lie open: 39 goes to one of two, and 16 17 18 are a run.
+        run("a card to one of two melds", "deal g 2 71053; draw; knock 22 = 39");
+        // 31 44 52 lie open: one of 5 and 18 makes it a set of four, and no more can be laid off.
+        run("one card to a tight set", "packs 1 2; deal g 2 3465; draw; deadwood 1 = 71; knock 14 = 59");
+        // 3 4 5 lie open: one 2 of two, 1 and 6 go there.
+        run("like cards to a run", "packs 2 0; deal g 2 590; draw; deadwood 1 = 58; knock 7 = 40");
+        // 5 6 7, 16 29 52 and 27 28 52 lie open: 2 3 4 8 go to the first one, so that 3 is not left for the second.
+        run("cards to a run, none of them to a set", "packs 1 2; deal g 2 1249; draw; deadwood 1 = 59; knock 24 = 40");
+        run("nothing to the melds of an earlier knock", KNOCK + "deal g 2 2113; draw; knock 0 = 64; deadwood 0 = 3;"
+                + "deadwood 1 = 67; points 0 = 92");
     }
 
     /** "the melds of the first best way of the knocker lie open": others would take another card */
@@ -294,6 +312,9 @@ public final class TableEdgesTest extends HouseChecks {
                 + 3f / 52f + "; lay 0 34; tableShare = " + 4f / 52f);
         run("share of 105", "packs 2 1; wild false true 2; deal r 2 13; passes 84; take 84;"
                 + "put 8 8 21 21 34 34 47; tableShare = " + 7f / 105f + "; lay 0 47; tableShare = " + 8f / 105f);
+        String three = "packs 1 2; deal r 3 224; draw; put 3 4 6 7 52; put 46 48 52; tableShare = " + 8f / 54f + ";";
+        run("share of the next deal", three + "deal r 3 224; tableShare = 0.0; draw; put 46 48 52; tableShare = "
+                + 3f / 54f);
         run("share of a void deal", "deal c 4 77; passes 30; draw = -1; tableShare = 0.0; ace l;"
                 + "tableShare = !Arithmetic");
     }
