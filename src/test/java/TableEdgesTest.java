@@ -313,8 +313,8 @@ public final class TableEdgesTest extends HouseChecks {
         run("share of 105", "packs 2 1; wild false true 2; deal r 2 13; passes 84; take 84;"
                 + "put 8 8 21 21 34 34 47; tableShare = " + 7f / 105f + "; lay 0 47; tableShare = " + 8f / 105f);
         String three = "packs 1 2; deal r 3 224; draw; put 3 4 6 7 52; put 46 48 52; tableShare = " + 8f / 54f + ";";
-        run("share of the next deal", three + "deal r 3 224; tableShare = 0.0; draw; put 46 48 52; tableShare = "
-                + 3f / 54f);
+        run("share of the next deal", three + "deal r 3 224; tableShare = 0.0; isSound = true; draw; put 46 48 52;"
+                + "isSound = true; tableShare = " + 3f / 54f);
         run("share of a void deal", "deal c 4 77; passes 30; draw = -1; tableShare = 0.0; ace l;"
                 + "tableShare = !Arithmetic");
     }
