@@ -231,6 +231,14 @@ class HouseChecks {
 
     // ---- small helpers
 
+    /** The next z of a search for a deal: such a search fails, and does not go on for ever, if the house is broken. */
+    static int nextZ(int z) {
+        if (z > 50_000) {
+            throw new AssertionError("no deal is as it is wanted");
+        }
+        return z + 1;
+    }
+
     static Meldhouse typed(Meldhouse x, int... cards) {
         x.wipe();
         for (int card : cards) {

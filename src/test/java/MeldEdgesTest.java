@@ -221,7 +221,27 @@ public final class MeldEdgesTest extends HouseChecks {
                 + "way = 9 10 11 | 12 25 38");
     }
 
+    /** "Examples: each one begins with a new object"; the third one is a deal, see DealEdgesTest. */
+    private static void examples() {
+        run("the first example", "wipe = 0; type 3 = 1; type 16 = 2; type 29 = 3; kind = s; least = 0");
+        run("the second example", "wipe = 0; type 0 = 1; type 1 = 2; type 2 = 3; type 3 = 4; type 16 = 5; type 29 = 6;"
+                + "least = 0; ways = 1; melds = 2; melded 0 0 = 0");
+    }
+
+    /** Typed cards are gone by a wipe, a meld or cards laid off, and by nothing else: not by looks, rules or deals. */
+    private static void typedStay() {
+        run("by looks and rules", "types 3 16 29; kind = s; least = 0; ways = 1; way = 3 16 29; packs 2 4; ace r;"
+                + "wild true true 4; kind = s; type 52 = 4; wipe = 4");
+        run("by a deal, a turn and an end", "types 3 16 29; deal g 2 825; draw; kind = s; knock 15; kind = s; wipe = 3;"
+                + "types 3 4; deal r 2 5; draw = 2; discard 2 = 1; type 5 = 3; kind = r; wipe = 3");
+        run("rules are asked anew", "types 3 3 16 52; least = 4; wild false true 2; least = 0; wild false true 0;"
+                + "least = 20; ways = 1; way = 3 3 16; wild false false 2; least = 4; way = 3 16 52; ways = 1;"
+                + "types 11 12 0; least = 21; ace h; least = 0; ace l; least = 21; melds = 0");
+    }
+
     public static void main(String[] args) {
+        examples();
+        typedStay();
         cards();
         packs();
         wildTwos();

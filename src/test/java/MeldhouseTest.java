@@ -431,7 +431,7 @@ public final class MeldhouseTest extends HouseChecks {
             while (x.hand(0, 52) == 0 || x.isFrozen()) {
                 x = new Meldhouse();
                 x.packs(1, 4);
-                z++;
+                z = nextZ(z);
                 x.deal(edition, 2, z);
                 x.draw();
             }
@@ -460,7 +460,7 @@ public final class MeldhouseTest extends HouseChecks {
         int z = 0;
         while (!isBound(x, z)) {
             x = rich();
-            z++;
+            z = nextZ(z);
         }
         Meldhouse y = x;
         int bound = y.must();
@@ -503,7 +503,7 @@ public final class MeldhouseTest extends HouseChecks {
         int z = 0;
         while (!isBoundToLayOff(x, z)) {
             x = rich();
-            z++;
+            z = nextZ(z);
         }
         Meldhouse y = x;
         int bound = y.must();
@@ -720,7 +720,7 @@ public final class MeldhouseTest extends HouseChecks {
         Meldhouse y = rich();
         while (!isLaidOffToOther(y, z)) {
             y = rich();
-            z++;
+            z = nextZ(z);
         }
         is("owner of a meld laid off to by the other one", y.owner(0), 0);
         is("owner of the meld of the other one", y.owner(1), 1);
@@ -805,7 +805,7 @@ public final class MeldhouseTest extends HouseChecks {
         y.wipe();
         y.discard(15);
         pass(y);
-        while (!outByDiscard(y)) {
+        for (int turn = 0; turn < 50 && !outByDiscard(y); turn++) {
             pass(y);
         }
         is("part of one who is out by a discard", y.part(), 'e');
@@ -968,13 +968,13 @@ public final class MeldhouseTest extends HouseChecks {
         int z = 0;
         x.deal('r', 2, z);
         while (x.hand(0, x.pileAt(0)) != 1) {
-            while (x.part() != 'v') {
+            for (int turn = 0; turn < 500 && x.part() != 'v'; turn++) {
                 x.draw();
                 if (x.part() == 'p') {
                     x.discard(lowest(x));
                 }
             }
-            z++;
+            z = nextZ(z);
             x.deal('r', 2, z);
         }
         int card = x.pileAt(0);
