@@ -525,16 +525,10 @@ public final class Meldhouse {
         }
 
         int handSize(char edition) {
-            switch (edition) {
-                case 'g':
-                    return 10;
-                case 'r':
-                    return 7;
-                case 'c':
-                    return 9;
-                default:
-                    return 0;
+            if (edition == 'g') {
+                return 10;
             }
+            return edition == 'r' ? 7 : edition == 'c' ? 9 : 0;
         }
 
         boolean isDealable(char edition, int players) {
