@@ -1,8 +1,10 @@
 import java.lang.reflect.Constructor;
+import java.lang.reflect.Field;
 import java.lang.reflect.Method;
 import java.lang.reflect.Modifier;
 import java.nio.file.Files;
 import java.nio.file.Path;
+import java.util.ArrayList;
 import java.util.List;
 import java.util.Set;
 import java.util.TreeSet;
@@ -11,6 +13,7 @@ import java.util.regex.Pattern;
 /** The rules of ../shared/LANGUAGE.md that can be seen in the source, and what a run makes in the room. */
 public final class LanguageTest {
     private static final Path SOURCE = Path.of("src/main/java/Meldhouse.java");
+    private static final Path DOCUMENT = Path.of("../shared/DOC.md");
     private static final List<String> FACE = List.of("packs", "ace", "wild", "worth", "type", "wipe", "kind", "least",
             "ways", "melds", "melded", "deal", "stock", "pile", "pileAt", "isFrozen", "held", "hand", "turn", "part",
             "draw", "take", "must", "meld", "layOff", "discard", "knock", "claim", "table", "tabled", "owner",
@@ -29,6 +32,7 @@ public final class LanguageTest {
 
     public static void main(String[] args) throws Exception {
         checkFace();
+        checkTold(Files.readAllLines(DOCUMENT));
         checkWords(Files.readString(SOURCE));
         checkLengths(Files.readAllLines(SOURCE));
         checkRoom();
@@ -59,6 +63,46 @@ public final class LanguageTest {
                 check(method + " has at most 7 parameters", method.getParameterCount() <= 7);
             }
         }
+    }
+
+    /** The face is told by the document line by line: what is answered, what is given, what is thrown. */
+    private static void checkTold(List<String> document) {
+        Set<String> due = new TreeSet<>();
+        for (String line : document) {
+            if (line.startsWith("    public ") && line.endsWith(";")) {
+                due.add(line.strip().replaceAll("(boolean|char|int) \\w+(?=[,)])", "$1"));
+            }
+        }
+        Set<String> got = new TreeSet<>();
+        for (Constructor<?> constructor : Meldhouse.class.getDeclaredConstructors()) {
+            got.add("public Meldhouse" + namesOf(constructor.getParameterTypes(), "(", ")") + ";");
+        }
+        for (Method method : Meldhouse.class.getDeclaredMethods()) {
+            if (Modifier.isPublic(method.getModifiers())) {
+                got.add(Modifier.toString(method.getModifiers()) + " " + method.getReturnType() + " " + method.getName()
+                        + namesOf(method.getParameterTypes(), "(", ")")
+                        + (method.getExceptionTypes().length == 0 ? "" : " throws ")
+                        + namesOf(method.getExceptionTypes(), "", "") + ";");
+            }
+        }
+        check("a face is told", due.size() > 40);
+        for (String line : due) {
+            check("the document tells: " + line, got.contains(line));
+        }
+        for (String line : got) {
+            check("the document does not tell: " + line, due.contains(line));
+        }
+        for (Field field : Meldhouse.class.getDeclaredFields()) {
+            check(field + " is private", Modifier.isPrivate(field.getModifiers()));
+        }
+    }
+
+    private static String namesOf(Class<?>[] kinds, String start, String end) {
+        List<String> names = new ArrayList<>();
+        for (Class<?> kind : kinds) {
+            names.add(kind.getSimpleName());
+        }
+        return start + String.join(", ", names) + end;
     }
 
     private static void checkWords(String source) {
